@@ -32,6 +32,7 @@ public final class ModelTests {
     private static boolean oneRun(Random draw, int run) {
         OnePen x = new OnePen();
         Model m = new Model();
+        wrongAt = -1;
         int calls = 0;
         boolean far = draw.nextInt(5) == 0;
         boolean early = draw.nextInt(10) == 0;
@@ -42,6 +43,8 @@ public final class ModelTests {
                 if (far && m.s.told && m.s.minute < 100) calls += goFar(draw, x, m, run);
             } else if (kind < 3) {
                 calls += tell(draw, x, m, ruleText(draw), false, run);
+            } else if (kind == 8) {
+                calls += tellLogs(draw, x, m, run);
             } else if (kind == 7) {
                 calls += survey(draw, x, m, run);
             } else {
@@ -60,6 +63,19 @@ public final class ModelTests {
             calls++;
         }
         return calls;
+    }
+
+    /** Other logs in place of those there are, now and then an image of them, and what they tell. */
+    private static int tellLogs(Random draw, OnePen x, Model m, int run) {
+        same(x, m, run, 21, new int[] {-1, 0, 0, 0, 0});
+        for (int k = 0; k < 3; k++) {
+            int what = draw.nextInt(3);
+            int other = what == 2 ? draw.nextInt(30) : draw.nextInt(4);
+            same(x, m, run, 21, new int[] {what, draw.nextInt(5), other, 0, 0});
+        }
+        same(x, m, run, draw.nextBoolean() ? 28 : 29, new int[] {draw.nextInt(2), 0, 0, 0, 0});
+        for (int k = 0; k < 13; k++) same(x, m, run, 23, new int[] {k, 0, 0, 0, 0});
+        return 18;
     }
 
     /** All questions of one kind or of all, of the state as it is. */

@@ -269,6 +269,7 @@ public final class PromiseTests {
         fault(two + times(36, ";rests1 0") + ";office", 369, 4);
         fault(two + times(36, ";rests1 0") + ";xyz", 369, 0);
         fault(two + times(36, ";rests1 0") + ";", 369, 0);
+        due("the last minute", told(clerk + ";away 0 299 299").count(4), 1);
         due("five digits", told("office 00001 00001 00000").count(0), 1);
         due("all of each", told(pen + times(4, ";clerk 0") + times(6, ";away 0 0 0") + times(6, ";paper 0 1 0 1")).count(4), 6);
     }
@@ -312,6 +313,8 @@ public final class PromiseTests {
         ruleFault("sign x", 5, 0);
         ruleFault("sign if", 5, 0);
         ruleFault("sign not", 5, 0);
+        ruleFault("sign office", 5, 0);
+        ruleFault("sign away", 5, 0);
         ruleFault("sign -1", 5, 0);
         ruleFault("sign (1)", 5, 0);
         ruleFault("sign 1;", 7, 0);
@@ -646,6 +649,10 @@ public final class PromiseTests {
         due("by(2, 2)", y.by(2, 2), 0);
         due("by(3, 2)", y.by(3, 2), 1);
         due("by(3, 3)", y.by(3, 3), 1);
+        OnePen ring = told(RING);
+        rule(ring, "sign worth");
+        due("VOID ones are signed too", ring.by(0, 2), 3);
+        due("and worth nothing", ring.by(0, 0), 0);
         // what can't be signed is passed over
         OnePen far = told(BIG);
         rule(far, "sign strokes");
@@ -754,6 +761,10 @@ public final class PromiseTests {
         due("no office", new OnePen().plan(0), -3);
         x.sign(0);
         planIs(x, 12, 15, 1, -2, -2, -2, -2, -2, 4);
+        // what is signed and late counts nothing, what is left may still be in time
+        OnePen y = told(PAIR);
+        y.sign(1);
+        planIs(y, 7, 3, -2, -2, -2, -2, -2, -2, 1);
         // nothing is in time: the row of none
         planIs(told("office 99 200 0;clerk 0;paper 0 1 0 5;paper 0 1 0 5"), 0, 0, -2, -2, -2, -2, -2, -2, 3);
         // of several the first
@@ -987,6 +998,7 @@ public final class PromiseTests {
         // paper 1 till 9999, then paper 0, which can't be
         due("days(1, 1)", far.days(1, 1), 9999);
         due("no papers", told("office 1 1 0").days(3, 1), 0);
+        due("VOID ones", told(RING).days(20, 0), 0);
     }
 
     private static void count() {
@@ -1057,6 +1069,12 @@ public final class PromiseTests {
         due("back(-1)", x.back(-1), -1);
         x.sign(1);
         due("back(1) once more", x.back(1), 4);
+        x.log(-1, 0, 0);
+        x.log(2, 2, 0);
+        due("orders(1) of other logs", x.orders(1), 2);
+        due("back(1) with its logs", x.back(1), 4);
+        due("orders(0)", x.orders(0), 3);
+        due("orders(1)", x.orders(1), 0);
         due("back(0)", x.back(0), 0);
         due("no office", x.plan(0), -3);
         due("no clerks", x.count(8), -1);

@@ -327,10 +327,9 @@ public final class OnePen {
 
     private int leastBlanks(int pool) {
         int least = pool;
-        for (int set = 0; set <= ALL; set++) {
-            boolean fewer = Integer.bitCount(set) < Integer.bitCount(least);
-            boolean first = Integer.bitCount(set) == Integer.bitCount(least) && set < least;
-            if ((set & ~pool) == 0 && (fewer || first)
+        // sets are met the least first, so that only one of fewer papers takes the place
+        for (int set = 0; set <= pool; set++) {
+            if ((set & ~pool) == 0 && Integer.bitCount(set) < Integer.bitCount(least)
                     && desk.office.ringsWithin(pool & ~set) == 0) {
                 least = set;
             }
@@ -1250,23 +1249,18 @@ public final class OnePen {
                     text.fail(BAD_CLAUSE);
                 } else {
                     text.step();
-                    readClause(text);
+                    readSum(text);
+                    boolean tested = text.isWord(IF);
+                    if (tested) {
+                        text.step();
+                        readTest(text, 0);
+                    }
+                    draft.add(tested ? Rule.TAKE_IF : Rule.TAKE, 0);
                 }
                 if (text.fault == 0 && text.kind() == Text.END) {
                     return;
                 }
                 text.takeMark(';');
-            }
-        }
-
-        private void readClause(Text text) {
-            readSum(text);
-            if (text.isWord(IF)) {
-                text.step();
-                readTest(text, 0);
-                draft.add(Rule.TAKE_IF, 0);
-            } else {
-                draft.add(Rule.TAKE, 0);
             }
         }
 
