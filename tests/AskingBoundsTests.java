@@ -133,6 +133,7 @@ public final class AskingBoundsTests {
         planIs("none left", signed(SIX, 0, 1, 2, 3, 4, 5), 6, 6, -2, -2, -2, -2, -2, -2, 0);
         c.about("PLAN: rows of PAPERS of any number, of none too");
         planIs("none in time", Pen.of(SIX).pass(99), 0, 99, -2, -2, -2, -2, -2, -2, 63);
+        planIs("none that can be signed", Pen.of(SIX).pass(9999), 0, 9999, -2, -2, -2, -2, -2, -2, 63);
         planIs("one in time", Pen.of(SIX).pass(98), 1, 99, 0, -2, -2, -2, -2, -2, 62);
         planIs("none in time, one signed", signed(SIX, 2).pass(98), 1, 99, -2, -2, -2, -2, -2, -2, 59);
         planIs("what is signed and late", signed("office 99 200 0;clerk 0;paper 0 2 1 5;paper 0 1 3 7", 0), 7, 3, 1, -2, -2, -2, -2, -2, 0);
@@ -474,5 +475,26 @@ public final class AskingBoundsTests {
         c.unchanged("count(12)", made, p -> p.count(12), 4);
         c.unchanged("paper(0, 4)", made, p -> p.paper(0, 4), 5);
         c.unchanged("clerk(1, 3)", made, p -> p.clerk(1, 3), 10);
+        c.about("III: nor for the ACTS that come then");
+        Supplier<Pen> asked = () -> {
+            Pen p = made.get();
+            p.when(1, 0);
+            p.by(0, 0);
+            p.waits(1, 0);
+            p.plan(0);
+            p.second(1);
+            p.keep(0);
+            p.late();
+            p.days(3, 1);
+            return p;
+        };
+        c.alike("filling()", () -> after(asked, Pen::filling), () -> after(made, Pen::filling));
+        c.alike("change()", () -> after(asked, Pen::change), () -> after(made, Pen::change));
+        c.alike("await(1)", () -> after(asked, p -> p.await(1)), () -> after(made, p -> p.await(1)));
+        c.alike("blank(1)", () -> after(asked, p -> p.blank(1)), () -> after(made, p -> p.blank(1)));
+        c.alike("sign(3)", () -> after(asked, p -> p.sign(3)), () -> after(made, p -> p.sign(3)));
+        c.alike("undo()", () -> after(asked, Pen::undo), () -> after(made, Pen::undo));
+        c.alike("image(2)", () -> after(asked, p -> p.image(2)), () -> after(made, p -> p.image(2)));
+        c.alike("back(1)", () -> after(asked, p -> p.back(1)), () -> after(made, p -> p.back(1)));
     }
 }

@@ -172,6 +172,24 @@ public final class OfficeBoundsTests {
         c.due("feed behind the sixth", q.feed(0x3b736967, 0x6e203700, 0, 0, 0), 26);
         q.end(13);
         c.due("rule() of 'sign 5;sign 7'", q.rule(), 1);
+        // what was behind the end is no part of a NUMBER, a WORD or a SIGN there
+        Pen r = Pen.of("office 9 9 0;clerk 0;paper 0 1 9 1");
+        r.tell("sign 1 if worth=12;");
+        r.end(17);
+        c.due("rule() of 'sign 1 if worth=1'", r.rule(), 0);
+        c.due("by(0, 2)", r.by(0, 2), 1);
+        r.tell("sign worths");
+        r.end(10);
+        c.due("rule() of 'sign worth'", r.rule(), 1);
+        r.tell("sign 1 if 1<=");
+        r.end(12);
+        r.tell("2");
+        c.due("rule() of 'sign 1 if 1<2'", r.rule(), 2);
+        c.due("by(2, 2)", r.by(2, 2), 1);
+        r.tell("office 99 200 20;clerk 12");
+        r.end(24);
+        c.due("office()", r.office(), 0);
+        c.due("clerk(0, 0)", r.clerk(0, 0), 1);
     }
 
     // ---- promise 4
@@ -215,6 +233,17 @@ public final class OfficeBoundsTests {
         c.due("undo()", r.undo(), -1);
         c.due("back(2)", r.back(2), 3);
         c.due("back(1)", r.back(1), -1);
+        c.alike("told anew", () -> {
+            Pen t = Pen.of(SOME);
+            t.blank(0);
+            t.sign(1);
+            t.sign(0);
+            t.filling();
+            t.log(1, 0, 0);
+            t.tell(SOME);
+            t.office();
+            return t;
+        }, () -> Pen.of(SOME));
 
         c.about("4: an OFFICE of no CLERKS, of no PAPERS");
         c.due("office()", taken(PEN, 0).count(3), 0);
@@ -439,6 +468,7 @@ public final class OfficeBoundsTests {
         fault("office @" + times(393, "1"), 1);
         fault(times(394, " ") + "@clerk0", 4);
         fault(times(400, " ") + "@", 0);
+        fault(times(399, " ") + "@x", 0);
         fault("@" + times(400, "o"), 0);
 
         c.about("Terms: the end (behind the last byte)");

@@ -144,6 +144,7 @@ public final class RuleBoundsTests {
         fault("sign 1" + times(393, " ") + ";@", 0);
         fault("sign" + times(396, " ") + "@", 0);
         fault(times(400, " ") + "@", 0);
+        fault(times(399, " ") + "@x", 0);
         fault("@" + times(400, "s"), 0);
         fault(times(396, " ") + "sign@", 0);
         fault("sign @" + times(395, "0"), 1);
